@@ -19,9 +19,9 @@ public final class ActsTest {
 
     private static void undo() {
         Check c = new Check(9);
-        CockleSquires x = Check.of("l0,8,2;c40,9;q5,3;w30,4;");
+        CockleSquires x = Check.of("l0,6,2;c40,9;q5,3;w30,4;c40,4;");
         c.due("none", x.undo(), Check.STATE);
-        String[] pictures = new String[8];
+        String[] pictures = new String[9];
         int n = 0;
         pictures[n++] = Check.picture(x);
         x.tides(1);
@@ -30,6 +30,11 @@ public final class ActsTest {
         pictures[n++] = Check.picture(x);
         x.rake(0, 33);
         pictures[n++] = Check.picture(x);
+        x.stand(1, 0);
+        x.undo();
+        x.rake(3, 9);
+        c.due("counted for neither", x.board(2), 6);
+        pictures[n++] = Check.picture(x);
         x.rain(2, 8);
         pictures[n++] = Check.picture(x);
         x.veto(1, 1);
@@ -37,8 +42,8 @@ public final class ActsTest {
         x.stand(0, 4);
         pictures[n++] = Check.picture(x);
         x.stand(1, 3);
-        c.due("count(6)", x.count(6), 7);
-        for (int left = 6; left >= 0; left--) {
+        c.due("count(6)", x.count(6), 8);
+        for (int left = 7; left >= 0; left--) {
             c.due("undo()", x.undo(), left);
             c.due("as it was ahead of act " + left, Check.picture(x).equals(pictures[left]) ? 1 : 0, 1);
         }
@@ -297,16 +302,19 @@ public final class ActsTest {
         d.due("restore(2)", x.restore(2), Check.BAD);
         d.due("restore(-1)", x.restore(-1), Check.BAD);
         d.due("none kept", x.restore(0), Check.STATE);
-        Check.read(x, "l0,4,7;c40,4;c30,4;");
+        Check.read(x, "l0,4,7;c40,4;c30,4;c20,4;k20,4;");
         x.tides(3);
+        x.rake(2, 8);
+        x.rake(3, 8);
         x.rake(0, 20);
+        c.due("for neither", x.board(2), 6);
         x.veto(1, 1);
         x.stand(1, 7);
         String first = Check.picture(x);
         c.due("image(1)", x.image(1), 1);
-        c.due("it is no act", x.count(6), 6);
+        c.due("it is no act", x.count(6), 8);
         d.due("the other one was not kept", x.restore(0), Check.STATE);
-        d.due("acts stay then", x.count(6), 6);
+        d.due("acts stay then", x.count(6), 8);
         x.tides(2);
         x.rain(0, 9);
         String second = Check.picture(x);

@@ -148,6 +148,9 @@ public final class ForetoldTest {
         x.rake(0, 1);
         c.due("what 2", x.rests(2), Check.BAD);
         c.due("what -1", x.rests(-1), Check.BAD);
+        Check.read(x, "l8,0,1;c40,0;");
+        c.due("both in the first cell", x.rests(0), 1);
+        c.due("where", x.rests(1), 0);
         Check.read(x, "l0,0,1;k40,0;c40,0;");
         restsByWords(c, x);
         Check.read(x, "l0,0,1;k20,0;c20,0;k20,0;c20,0;s20,0;");
@@ -207,6 +210,18 @@ public final class ForetoldTest {
         x.rake(0, 92);
         c.due("69 for B: three", x.rakes(0, 0), 3);
         c.due("of four the least three", x.rakes(0, 1), 32 + 64 + 128);
+        Check.read(x, "l0,8,1;c4,0;c4,0;c10,0;c2,0;c0,0;c12,0;");
+        x.rake(5, 6);
+        c.due("4 for B: of 3, 3, 7 and 1 one is enough", x.rakes(0, 0), 1);
+        c.due("which", x.rakes(0, 1), 4);
+        Check.read(x, "l0,8,1;c2,0;c0,0;c0,0;c0,0;c0,0;c4,0;");
+        c.due("more by 1", x.rakes(0, 1), 1);
+        c.due("B", x.rakes(1, 1), 32);
+        x.rake(0, 2);
+        c.due("by now, by 1", x.rakes(0, 0), 0);
+        c.due("B", x.rakes(1, 0), 1);
+        x.rake(5, 2);
+        c.due("1 and 1", x.rakes(0, 0), Check.NONE);
         c.due("what 2", x.rakes(0, 2), Check.BAD);
         c.due("what -1", x.rakes(0, -1), Check.BAD);
         c.due("who 2", x.rakes(2, 0), Check.BAD);
@@ -239,6 +254,15 @@ public final class ForetoldTest {
         // Nothing counted by now is in it: A 0, A 0 (2 left), B 6, B 6, A 6, A 3.
         ward(x, 0, 1, 0, 0);
         ward(x, 1, 1, 1, 0);
+        x = Check.of("l0,8,1;w2,9;w2,9;w2,0;w2,0;w2,9;");
+        // More by 1: 1 1 / 1 1 are as many, and so are the last two.
+        ward(x, 0, 1, 1, 0);
+        ward(x, 0, 2, 1, 10);
+        ward(x, 0, 3, 2, 12);
+        ward(x, 1, 2, 1, 20);
+        ward(x, 1, 3, 1, 12);
+        x = Check.of("l0,0,1;w4,0;w0,0;w0,0;w8,9;w4,9;w12,0;w0,0;w0,0;w16,9;");
+        ward(x, 0, 3, 3, 45);
         x = Check.of("l0,8,1;w8,9;w8,0;");
         ward(x, 0, 2, 1, 10);
         ward(x, 0, 3, Check.NONE, Check.NONE);
@@ -284,6 +308,13 @@ public final class ForetoldTest {
         c.due("B leads", x.decide(), 5);
         Check.read(x, "l0,0,1;c20,0;c9,0;");
         c.due("none", x.decide(), 0);
+        Check.read(x, "l0,8,1;w2,9;w4,0;");
+        // B leads by 2; without bed 1 A leads by 1.
+        c.due("by 1", x.decide(), 2);
+        x.rake(0, 2);
+        c.due("counted, it is not decided by its bed", x.decide(), 2);
+        x.rake(1, 2);
+        c.due("as many", x.decide(), 2);
     }
 
     private static void grew(CockleSquires x, int bed, int kinds, int warms, int lots, int... items) {
@@ -325,6 +356,8 @@ public final class ForetoldTest {
         x.row(2, 0, 40);
         c.due("of bytes", x.set(2, 39, 9), 9);
         c.due("the last item", x.grown(0, 1, 2, 39, 1), 8 + 16);
+        Check.write(x, 7, 9);
+        c.due("the last row", x.grown(0, 1, 7, 0, 1), 8 + 16);
     }
 
     private static void grownRefused() {
@@ -430,6 +463,11 @@ public final class ForetoldTest {
         likely(x, 0, 10, 1, 1);
         // 30 for A by now, 7 more of the 10 left, 60 for B.
         likely(x, 1, 4, 3, 5);
+        Check.read(x, "l0,8,1;w2,9;w4,0;");
+        likely(x, 0, 5, 1, 4);
+        x.rake(1, 2);
+        likely(x, 1, 5, 3, 4);
+        likely(x, 0, 5, 0, 1);
         Check.read(x, "l0,0,1;w4,9;w4,9;w4,9;w4,9;w4,9;w4,9;w4,9;w4,9;w4,9;");
         likely(x, 0, 1, 999999999L, 1000000000L);
         likely(x, 0, 9, 1000000000L - 387420489L, 1000000000L);

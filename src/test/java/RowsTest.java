@@ -135,6 +135,11 @@ public final class RowsTest {
         int[] downwards = {10, 11, 12, 13, 13};
         for (int i = 0; i < 5; i++) c.due("item " + i, Check.holds(x, 0, i, downwards[i]), 1);
         c.due("none, at both ends", x.copy(0, 5, 1, 3, 0), 0);
+        Check.write(x, 7, 33);
+        c.due("from the last row", x.copy(7, 0, 1, 2, 1), 1);
+        c.due("copied", Check.holds(x, 1, 2, 33), 1);
+        c.due("to the last row", x.copy(1, 1, 7, 0, 1), 1);
+        c.due("copied", Check.holds(x, 7, 0, 12), 1);
         c.due("all of a row onto itself", x.copy(0, 0, 0, 0, 5), 5);
         c.due("status()", x.status(), 0);
     }

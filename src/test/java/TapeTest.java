@@ -54,14 +54,20 @@ public final class TapeTest {
 
     private static void flatInPlaceOfAnother() {
         Check c = new Check(7);
-        CockleSquires x = Check.of("l0,8,1;c40,9;c40,9;c40,9;");
+        CockleSquires x = Check.of("l0,8,1;c40,9;k40,9;q9,9;");
         x.row(0, 0, 3);
         x.image(0);
         String image = Check.picture(x);
-        x.tides(2);
         x.rake(0, 20);
+        x.rake(1, 20);
+        x.rake(2, 8);
+        x.tides(3);
         x.veto(1, 1);
-        c.due("count(6)", x.count(6), 4);
+        c.due("for A", x.board(0), 15);
+        c.due("for B", x.board(1), 15);
+        c.due("for neither", x.board(2), 6);
+        c.due("foretold ahead of another", x.drawn(60, 9, 2) < 6 ? 0 : 1, 1);
+        c.due("count(6)", x.count(6), 7);
         c.due("another", Check.read(x, "l1,2,3;q7,3;"), 1);
         c.due("beds", x.count(1), 1);
         c.due("TIDE", x.count(2), 0);
@@ -69,6 +75,7 @@ public final class TapeTest {
         c.due("COUNTED", x.count(4), 0);
         c.due("VETOES", x.count(5), 0);
         c.due("ACTS", x.count(6), 0);
+        for (int what = 0; what < 3; what++) c.due("board(" + what + ")", x.board(what), 0);
         c.due("undo()", x.undo(), Check.STATE);
         c.due("the second bed is none any more", x.bed(1, 0), Check.BAD);
         c.due("rows stay", x.count(0), 1);
