@@ -57,14 +57,14 @@ final class Check {
         return (x.grown(0, 0, row, i, 1) & 1 << 4) != 0 ? 1 : 0;
     }
 
-    /** All that can be asked without a change, as one text: two flats alike tell the same. */
+    /** All that a flat is, as one text; kept short, because an object answers 512 calls alone. */
     static String picture(CockleSquires x) {
         StringBuilder all = new StringBuilder();
-        for (int what = 0; what < 8; what++) if (what != 6) all.append(x.count(what)).append(' ');
+        int beds = x.count(1);
+        all.append(beds).append(' ').append(x.count(2)).append(' ').append(x.count(5)).append(' ');
         for (int what = 0; what < 6; what++) all.append(x.board(what)).append(' ');
-        for (int bed = 0; bed < 9; bed++) {
-            all.append(x.kind(bed)).append(' ');
-            for (int what = 0; what < 4; what++) all.append(x.bed(bed, what)).append(' ');
+        for (int bed = 0; bed < beds; bed++) {
+            all.append(x.kind(bed)).append(' ').append(x.bed(bed, 0)).append(' ').append(x.bed(bed, 1)).append(' ');
         }
         return all.toString();
     }
